@@ -9,6 +9,8 @@ public final class KeepTest {
         seeds();
         kept();
         notKept();
+        sidesKept();
+        rowsKept();
         backTwice();
         nothingKept();
         statuses();
@@ -178,6 +180,49 @@ public final class KeepTest {
         Due.due("STUCK", x.status(15), 1);
         Due.due("line()", x.line(), 2);
         Due.due("text(2, 1)", x.text(2, 1), '2');
+    }
+
+    private static void sidesKept() {
+        KnitReader x = Due.knit(4, "k4");
+        x.work(0);
+        x.image();
+        x.work(0);
+        Due.due("back() from RIGHT", x.back(), 1);
+        Due.due("status(3)", x.status(3), 1);
+        x.work(0);
+        Due.due("SIDE of what is WORKED then", x.workedOf(1, 0), 1);
+        x.image();
+        x.work(0);
+        Due.due("back() from WRONG", x.back(), 1);
+        Due.due("status(3)", x.status(3), 0);
+    }
+
+    private static void rowsKept() {
+        KnitReader x = Due.knit(0, "k4", "p5,<k>0", "sl");
+        x.image();
+        x.drop();
+        x.drop();
+        x.drop();
+        Due.tell(x, "yo");
+        Due.tell(x, "m");
+        x.back();
+        Due.due("ROWS", x.status(0), 3);
+        Due.due("ROW 0", x.text(0, 0), 'k');
+        Due.due("ROW 1", x.text(1, 0), 'p');
+        Due.due("ROW 1", x.lineOf(1, 3), 1);
+        Due.due("ROW 2", x.text(2, 0), 's');
+        Due.due("least()", x.least(), -1);
+        for (int i = 3; i < 20; i++) {
+            Due.tell(x, "k" + i);
+        }
+        x.image();
+        for (int i = 0; i < 20; i++) {
+            x.drop();
+        }
+        x.back();
+        for (int i = 3; i < 20; i++) {
+            Due.due("would(" + i + ", " + i + ", 0)", x.would(i, i, 0), i);
+        }
     }
 
     private static void backTwice() {

@@ -74,6 +74,14 @@ public final class RowsTest {
         fault("y", 0);
         fault("s", 0);
         fault("kk", 0);
+        fault("ka", 0);
+        fault("kz", 0);
+        fault("k`", 1);
+        fault("k{", 1);
+        fault("kA", 1);
+        fault("k/", 1);
+        fault("k:", 1);
+        fault("k5:", 2);
         fault("k,ktk", 2);
         fault("k,(p,slk2)3", 5);
         fault("k0", 1);

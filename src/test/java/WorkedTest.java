@@ -94,6 +94,9 @@ public final class WorkedTest {
         shorthandIs("k", 1, "k");
         shorthandIs("k,k1,(k)2", 4, "k4");
         shorthandIs("<k>2,kt", 14, "k12,kt");
+        shorthandIs("k9,p10,sl11,k19", 49, "k9,p10,sl11,k19");
+        shorthandIs("(k,k2)15,bo8,yo9,m6", 53, "k45,bo8,yo9,m6");
+        shorthandIs("yo38,bo27", 27, "yo38,bo27");
         shorthandIs("k,p,sl,yo,m,kt,sk,bo,sd", 11, "k,p,sl,yo,m,kt,sk,bo,sd");
         shorthandIs("(k2,p)3,p9,k,(sl)10", 29, "k2,p,k2,p,k2,p10,k,sl10");
         shorthandIs("<k>0", 60, "k60");

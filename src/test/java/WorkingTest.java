@@ -253,6 +253,12 @@ public final class WorkingTest {
         y.run(0, 1, 7);
         Due.whyIs(y, "in ROW 0, the second time", 12, 2, 0, 11, 0, 4, 10, 3, 1, 10, 6, 1, 1, 7, 1);
         Due.due("two stay", y.status(1), 2);
+        KnitReader z = Due.knit(6, "(<((<k>5,kt)2,sl)1>0,k)3");
+        z.run(0, 0, 1);
+        Due.whyIs(z, "PAST in the second time", 12, 1, 0, 11, 0, 2, 10, 0, 1, 10, 1, 1, 10, 2, 1, 10, 3, 2, 5, 4, 3);
+        KnitReader w = Due.knit(6, "(<((<k,sd2>4,kt)2,sl)1>0,k)3");
+        w.run(0, 0, 1);
+        Due.whyIs(w, "the longest chain", 12, 1, 0, 11, 0, 2, 10, 0, 1, 10, 1, 1, 10, 2, 1, 10, 3, 1, 10, 4, 1, 1, 7, 2);
     }
 
     private static void wrongRuns() {
