@@ -874,7 +874,8 @@ public final class KnitReader {
         private int size;
 
         void takeFrom(Stitches other) {
-            size = Math.min(other.size, kinds.length);
+            int room = Math.min(kinds.length, other.kinds.length);
+            size = Math.max(0, Math.min(other.size, room));
             System.arraycopy(other.kinds, 0, kinds, 0, size);
         }
 
@@ -1414,8 +1415,12 @@ public final class KnitReader {
             return hasElement(i) ? elements[i] : 0;
         }
 
+        private boolean hasSpan(int from, int n) {
+            return n >= 0 && from >= 0 && from <= Math.min(size, elements.length) - n;
+        }
+
         boolean giveElements(int i, Shelf to, int j, int n) {
-            if (n < 0 || i < 0 || i > size - n || j < 0 || j > to.size - n) {
+            if (!hasSpan(i, n) || !to.hasSpan(j, n)) {
                 return false;
             }
             System.arraycopy(elements, i, to.elements, j, n);

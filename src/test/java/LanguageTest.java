@@ -33,6 +33,7 @@ public final class LanguageTest {
         String code = text.replaceAll("(?s)/\\*.*?\\*/", "").replaceAll("//[^\n]*", "");
         words(code);
         imports(code);
+        library(code);
         signs(text);
         face();
         staticFields(KnitReader.class);
@@ -52,6 +53,22 @@ public final class LanguageTest {
         while (m.find()) {
             Due.due("import " + m.group(1), allowed.contains(m.group(1)) ? 1 : 0, 1);
         }
+    }
+
+    /** Static functions of the library: those of Integer, Long and Math over int and long, and these. */
+    private static void library(String code) {
+        Set<String> own = new TreeSet<>();
+        for (Class<?> inner : KnitReader.class.getDeclaredClasses()) {
+            own.add(inner.getSimpleName());
+        }
+        Set<String> allowed = Set.of("System.arraycopy", "Arrays.copyOf", "Arrays.copyOfRange", "Arrays.fill", "List.of");
+        Matcher m = Pattern.compile("\\b([A-Z]\\w*)\\s*\\.\\s*(\\w+)\\s*\\(").matcher(code);
+        while (m.find()) {
+            boolean isNumbers = m.group(1).equals("Math") || m.group(1).equals("Integer") || m.group(1).equals("Long");
+            String name = m.group(1) + "." + m.group(2);
+            Due.due("a call of " + name, isNumbers || own.contains(m.group(1)) || allowed.contains(name) ? 1 : 0, 1);
+        }
+        Due.due("classes inside", own.size() <= 12 ? 1 : 0, 1);
     }
 
     private static void signs(String text) {

@@ -42,7 +42,10 @@ public final class RandomTest {
 
     private void is(String call, long got, long want) {
         calls++;
-        Due.due("run " + run + ", call " + calls + ": " + call, got, want);
+        // what calls behind the 512th answer is free
+        if (calls <= CALLS) {
+            Due.due("run " + run + ", call " + calls + ": " + call, got, want);
+        }
     }
 
     private int below(int n) {
@@ -58,12 +61,12 @@ public final class RandomTest {
     }
 
     private int worked() {
-        int n = x.status(1);
+        int n = m.status(1);
         return any(Math.max(1, n));
     }
 
     private int row() {
-        return any(Math.max(1, x.status(0)));
+        return any(Math.max(1, m.status(0)));
     }
 
     private void tell() {
@@ -75,7 +78,7 @@ public final class RandomTest {
     }
 
     private String text() {
-        int needle = x.status(2);
+        int needle = m.status(2);
         String text = below(4) == 0 ? fitting(needle) : parts(0);
         if (below(8) == 0) {
             int at = below(text.length() + 1);
@@ -171,13 +174,15 @@ public final class RandomTest {
     /** A told row that is nearly as it was worked. */
     private void judged(int a) {
         int w = worked();
-        int n = Math.max(0, Math.min(12, x.workedOf(w, 1) + below(3) - 1));
-        m.workedOf(w, 1);
+        int many = m.workedOf(w, 1);
+        is("workedOf to judge", x.workedOf(w, 1), many);
+        int n = Math.max(0, Math.min(12, many + below(3) - 1));
         is("row to judge", x.row(a, a & 3, n), m.row(a, a & 3, n));
         for (int i = 0; i < n; i++) {
-            int kind = below(20) == 0 ? below(14) : x.stitch(w, i, 0);
-            if (kind < 0) {
-                m.stitch(w, i, 0);
+            int kind = below(14);
+            if (below(20) > 0) {
+                kind = m.stitch(w, i, 0);
+                is("stitch to judge", x.stitch(w, i, 0), kind);
             }
             is("set to judge", x.set(a, i, kind), m.set(a, i, kind));
         }
@@ -192,7 +197,7 @@ public final class RandomTest {
             case 14: case 15: case 16: is("work", x.work(r), m.work(r)); break;
             case 17: is("run", x.run(r, r2, b), m.run(r, r2, b)); break;
             case 18: {
-                int by = below(3) == 0 ? x.status(1) : any(4);
+                int by = below(3) == 0 ? m.status(1) : any(4);
                 is("rip", x.rip(by), m.rip(by));
                 break;
             }
