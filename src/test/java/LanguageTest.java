@@ -18,7 +18,8 @@ public final class LanguageTest {
     private static final String[] RULED_OUT = {"\\bthrow\\b", "\\bthrows\\b", "\\btry\\b", "\\bcatch\\b", "\\bsynchronized\\b",
         "\\bassert\\b", "->", "::", "\\bpackage\\b", "\\bstatic\\s*\\{", "\\bgetClass\\b", "\\bhashCode\\b", "\\bfinalize\\b",
         "\\btoString\\s*\\(\\s*\\)\\s*\\{", "\\bHashMap\\b", "\\bNaN\\b", "Exact\\s*\\(", "\\bThread\\b", "\\bRandom\\b",
-        "\\bcurrentTimeMillis\\b", "\\bnanoTime\\b", "@"};
+        "\\bcurrentTimeMillis\\b", "\\bnanoTime\\b", "@", "\"\\s*\\+", "\\+\\s*\"",
+        "\\bObject\\b", "\\bprotected\\b"};
     private static final String FACE = "row(int,int,int)int set(int,int,long)int copy(int,int,int,int,int)int element(int,int)long "
         + "holds(int)int show(int,int,int)int says(int,int)int feed(int)int wipe()int line()int drop()int mode(int)int cast(int)int "
         + "work(int)int run(int,int,int)int rip(int)int causes()int why(int,int)int lineOf(int,int)int text(int,int)int "
@@ -35,8 +36,10 @@ public final class LanguageTest {
         imports(code);
         library(code);
         signs(text);
+        lengths(code);
         face();
         staticFields(KnitReader.class);
+        sizes(KnitReader.class);
         names();
         Due.end("LanguageTest");
     }
@@ -69,6 +72,40 @@ public final class LanguageTest {
             Due.due("a call of " + name, isNumbers || own.contains(m.group(1)) || allowed.contains(name) ? 1 : 0, 1);
         }
         Due.due("classes inside", own.size() <= 12 ? 1 : 0, 1);
+    }
+
+    /** Methods stay short (some sixty lines): what stands one within the class, or one within a class inside it. */
+    private static void lengths(String code) {
+        String[] lines = code.split("\n", -1);
+        Pattern head = Pattern.compile("^( {4}| {8})[A-Za-z][^=;]*\\([^=;]*\\) \\{$");
+        int methods = 0;
+        for (int i = 0; i < lines.length; i++) {
+            Matcher m = head.matcher(lines[i]);
+            if (m.matches() && !lines[i].matches("\\s*(if|for|while|switch|do|else)\\b.*")) {
+                int end = i;
+                while (end < lines.length && !lines[end].equals(m.group(1) + "}")) {
+                    end++;
+                }
+                methods++;
+                Due.due("lines of " + lines[i].strip() + ", " + (end - i + 1), end - i < 60 ? 1 : 0, 1);
+            }
+        }
+        Due.due("methods found, " + methods, methods > 100 ? 1 : 0, 1);
+    }
+
+    /** A method takes at most seven parameters; a class has some twenty fields beside its constants. */
+    private static void sizes(Class<?> type) {
+        int fields = 0;
+        for (Field field : type.getDeclaredFields()) {
+            fields += Modifier.isStatic(field.getModifiers()) ? 0 : 1;
+        }
+        Due.due("fields of " + type.getName() + ", " + fields, fields <= 20 ? 1 : 0, 1);
+        for (Method method : type.getDeclaredMethods()) {
+            Due.due("parameters of " + method, method.getParameterCount() <= 7 ? 1 : 0, 1);
+        }
+        for (Class<?> inner : type.getDeclaredClasses()) {
+            sizes(inner);
+        }
     }
 
     private static void signs(String text) {
