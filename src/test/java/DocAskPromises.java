@@ -248,6 +248,9 @@ final class DocAskPromises {
         for (int n = 0; n <= 5; n++) {
             Due.due("judge(1, 0, " + n + ")", x.judge(1, 0, n), due[n]);
         }
+        x.set(0, 0, 4);
+        Due.due("another at 0", x.judge(1, 0, 3), 0);
+        x.set(0, 0, 5);
         x.set(0, 1, 10);
         Due.due("another at 1", x.judge(1, 0, 3), 1);
         Due.due("but not of the first 1", x.judge(1, 0, 1), 1);
@@ -317,6 +320,8 @@ final class DocAskPromises {
             x.days(30);
             x.rip(x.status(1));
             x.mode(1);
+            x.work(2);
+            x.work(2);
             x.drop();
             x.drop();
             Due.tell(x, "yo");
@@ -332,8 +337,13 @@ final class DocAskPromises {
             }
             Due.due("ROW 1", x.text(1, 1), '4');
             Due.due("ROW 2", x.text(2, 1), 't');
-            Due.due("WORKED ROW 0", x.workedOf(0, 1), 3);
-            Due.whyIs(x, "WHY", 12, 1, 1, 11, 1, 1, 6, 2, 3);
+            int[] worked = {0, 3, 3, 3, 30, 0};
+            for (int what = 0; what < worked.length; what++) {
+                Due.due("workedOf(0, " + what + ")", x.workedOf(0, what), worked[what]);
+            }
+            Due.due("origin(0)", x.origin(0), 4);
+            Due.whyIs(x, "WHY", 12, 1, 1, 11, 1, 1, 6, 2, 2);
+            Due.due("STUCK", x.status(15), 4 * time + 5);
             x.wipe();
         }
     }

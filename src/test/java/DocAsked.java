@@ -58,6 +58,7 @@ final class DocAsked {
         told(right(18, row), 0, due);
         told(wrong(18, row), 1, due);
         told(right(60, "<sl>0"), 0, "sl60");
+        told(right(58, "k8,p9,sl10,k11,p20"), 0, "k8,p9,sl10,k11,p20");
         told(wrong(1, "k"), 1, "k");
         told(right(0, "<k>0"), 0, "");
     }
@@ -162,6 +163,10 @@ final class DocAsked {
                 }
                 for (int i = 0; i < n; i++) {
                     Due.due("element " + i + " of SORT " + sort, x.element(0, i), due[sort][i % 2]);
+                }
+                for (int i = 0; i < n; i++) {
+                    x.set(0, i, i % 2 == 0 ? 0 : -1);
+                    Due.due("0 and -1 of SORT " + sort, x.element(0, i), i % 2 == 0 ? 0 : sort == 4 ? 1 : -1);
                 }
                 Due.due("no element " + n, x.set(0, n, 1), Due.BAD);
             }

@@ -93,6 +93,7 @@ final class DocPromises {
             Due.due("element(1, " + i + ")", x.element(1, i), due[i]);
             Due.due("element(0, " + i + ")", x.element(0, i), i);
         }
+        Due.due("copy(0, 1, 2, 2, 0)", x.copy(0, 1, 2, 2, 0), 0);
         Due.due("copy(0, 0, 0, 1, 4), as they were", x.copy(0, 0, 0, 1, 4), 4);
         Due.due("element(0, 4)", x.element(0, 4), 3);
         Due.due("copy(0, 0, 1, 0, 4), as they were", x.copy(0, 0, 1, 0, 4), 4);

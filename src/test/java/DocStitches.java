@@ -158,6 +158,9 @@ final class DocStitches {
         fault("yom", 0);
         fault("k,slk2", 2);
         fault("skt", 0);
+        fault("ka", 0);
+        fault("kz", 0);
+        fault("az", 0);
         good("kt");
         good("k,t".replace(",t", ",kt"));
         fault("k`", 1);
@@ -173,6 +176,11 @@ final class DocStitches {
         good("k60");
         fault("k100", 3);
         fault("k123", 3);
+        // two digits are a number, and of one that may not be the first byte comes ahead of the third digit
+        fault("k610", 1);
+        fault("k000", 1);
+        fault("k/", 1);
+        fault("k:", 1);
         fault("(k)100", 5);
         fault("<k>000", 5);
         fault("k,p111,k", 5);

@@ -157,6 +157,15 @@ final class DocWorkPromises {
         Due.refused(x, "text(-1, 0)", 1, x.text(-1, 0), Due.BAD);
     }
 
+    /** With 50 WORKED ROWS. */
+    private static KnitReader filled() {
+        KnitReader x = Due.knit(3, "k3");
+        x.run(0, 0, 20);
+        x.run(0, 0, 20);
+        x.run(0, 0, 10);
+        return x;
+    }
+
     private static void would() {
         Doc.says("## Promise 22: would `int would(int line, int n, int what)`: In thought, were there n (0 to 60) on the needle, and no WORKED "
             + "ROW: how many there would be behind a ROW (what 0), how many STITCHES it had (1), its YARN (2); NONE: a HITCH. BAD. (NONE "
@@ -172,6 +181,7 @@ final class DocWorkPromises {
         }
         Due.due("NONE isn't refused", x.status(12) + x.status(15), 0);
         Due.due("nothing is changed", x.status(2), 12);
+        Due.due("no WORKED ROW", filled().would(0, 3, 2), 30);
         int[][] bad = {{-1, 1, 0}, {2, 1, 0}, {0, -1, 0}, {0, 61, 0}, {0, 1, -1}, {0, 1, 3}};
         for (int i = 0; i < bad.length; i++) {
             Due.refused(x, "would, bad " + i, i, x.would(bad[i][0], bad[i][1], bad[i][2]), Due.BAD);
@@ -191,6 +201,7 @@ final class DocWorkPromises {
         Due.due("OVERLEFT", x.hitch(2, 10), 6);
         Due.due("WIDE", x.hitch(3, 60), 2);
         Due.due("no WHY", x.causes(), 0);
+        Due.due("no WORKED ROW", filled().hitch(0, 3), -1);
         Due.due("NONE isn't refused", x.status(12) + x.status(15), 0);
         int[][] bad = {{-1, 1}, {4, 1}, {0, -1}, {0, 61}};
         for (int i = 0; i < bad.length; i++) {
@@ -212,6 +223,7 @@ final class DocWorkPromises {
         for (int line = 0; line < due.length; line++) {
             Due.due("fits(" + line + ")", x.fits(line), due[line]);
         }
+        Due.due("50 WORKED ROWS don't count", filled().fits(0), 8);
         Due.due("fits(7)", x.fits(7), -9_000_000_000_000_000_092L);
         Due.due("fits(-1)", x.fits(-1), -9_000_000_000_000_000_092L);
         Due.due("BAD", x.status(12), 2);
@@ -233,6 +245,8 @@ final class DocWorkPromises {
         x.drop();
         Due.tell(x, "<k>50,p50");
         Due.due("58 and an odd count", x.least(), 59);
+        Due.due("60", Due.knit(0, "k60").least(), 60);
+        Due.due("on nothing WORKED", filled().least(), 3);
         Due.due("NONE isn't refused", x.status(12) + x.status(15), 0);
         Due.due("nothing is changed", x.status(1) + x.status(2), 0);
     }

@@ -218,6 +218,7 @@ final class DocWorking {
         hitchIs("k2,yo", 3, 6, 5, 1, 3);
         hitchIs("yo", 60, 6, 2, 60, 1);
         hitchIs("<k>1", 2, 6, 4, 1, 1);
+        hitchIs("<k>5", 5, 6, 4, 5, 0);
         Due.due("none are left", Due.knit(0, "k2,yo").hitch(0, 2), -1);
     }
 
@@ -269,15 +270,23 @@ final class DocWorking {
         KnitReader w = filled();
         w.run(0, 1, 1);
         Due.whyIs(w, "FILLED has 0", 12, 1, 0, 11, 0, 0, 7, 0, 4);
+        KnitReader v = Due.knit(9, "k,(<(<(k,sd2)2>1)2>0)2");
+        // k, k, sd, sd: left 1; k: left 0
+        v.work(0);
+        Due.whyIs(v, "five in one another", 11, 0, 5, 10, 2, 1, 10, 3, 1, 10, 4, 1, 10, 5, 1, 10, 6, 2, 1, 9, 0);
     }
 
     private static void whyIsTheLatest() {
         Doc.says("The latest that was refused (by STUCK) in truth (what HITCHES in days() isn't kept).");
-        KnitReader x = Due.knit(3, "k4", "k3", "k2");
+        KnitReader x = Due.knit(3, "k4", "k3", "yo,k2");
         x.work(0);
-        x.work(2);
-        Due.whyIs(x, "the latest", 11, 2, 2, 6, 2, 1);
+        Due.whyIs(x, "the latest", 11, 0, 3, 1, 0, 0);
+        x.run(2, 2, 1);
+        Due.whyIs(x, "the latest", 12, 1, 2, 11, 2, 3, 6, 5, 1);
         x.work(1);
+        x.mode(1);
+        x.run(1, 1, 3);
+        x.rip(1);
         x.hitch(0, 3);
         x.would(0, 3, 0);
         x.fits(0);
@@ -285,10 +294,11 @@ final class DocWorking {
         x.times(0, 2);
         x.days(20);
         x.work(9);
+        x.run(0, 9, 1);
         x.cast(5);
-        x.mode(1);
         x.back();
-        Due.whyIs(x, "as it was", 11, 2, 2, 6, 2, 1);
+        Due.whyIs(x, "as it was", 12, 1, 2, 11, 2, 3, 6, 5, 1);
+        Due.due("STUCK: work, run, mode, cast, back", x.status(15), 5);
     }
 
     private static void runs() {
